@@ -138,10 +138,10 @@ public final class LineBundles {
         int was = BAD;
         if (what == 0 && v >= 1 && v <= 100) {
             was = net.base;
-            net.base = v;
+            net.putRules(v, net.save);
         } else if (what == 1 && v >= 0 && v <= 50) {
             was = net.save;
-            net.save = v;
+            net.putRules(net.base, v);
         }
         return was;
     }
@@ -611,11 +611,22 @@ public final class LineBundles {
         private final int[] pointAt = new int[PLACES];
         private final int[] linesBy = new int[NUMBERED_SIDES];
         private final boolean[] goneTo = new boolean[PLACES];
-        private int base = 10, save = 3;
+        /** What a SIDE costs the next LINE, by how many are on it. */
+        private final int[] prices = new int[LINES];
+        private int base, save;
 
         Net() {
             for (int place = 0; place < PLACES; place++) {
                 pointAt[place] = NONE;
+            }
+            putRules(10, 3);
+        }
+
+        void putRules(int newBase, int newSave) {
+            base = newBase;
+            save = newSave;
+            for (int j = 0; j < LINES; j++) {
+                prices[j] = Math.max(1, base - j * save);
             }
         }
 
@@ -626,11 +637,6 @@ public final class LineBundles {
 
         int widthFrom(int place, int direction) {
             return Integer.bitCount(linesFrom(place, direction));
-        }
-
-        /** What a SIDE costs the next LINE, when so many are on it. */
-        int priceAfter(int others) {
-            return Math.max(1, base - others * save);
         }
 
         int shutPlaces() {
@@ -694,7 +700,7 @@ public final class LineBundles {
             int sum = 0;
             for (int side = 0; side < NUMBERED_SIDES; side++) {
                 if ((linesBy[side] & line.bit) != 0) {
-                    sum += priceAfter(Integer.bitCount(linesBy[side]) - 1);
+                    sum += prices[Integer.bitCount(linesBy[side]) - 1];
                 }
             }
             return sum;
@@ -736,7 +742,7 @@ public final class LineBundles {
             for (int side = 0; side < NUMBERED_SIDES; side++) {
                 int lines = Integer.bitCount(linesBy[side]);
                 for (int j = 0; j < lines; j++) {
-                    sum += priceAfter(j);
+                    sum += prices[j];
                 }
             }
             return sum;
@@ -847,7 +853,7 @@ public final class LineBundles {
 
         /** The LINE's own WAY counts as taken off. */
         private static int weight(Net net, Line line, int side) {
-            return net.priceAfter(Integer.bitCount(net.linesBy[side] & ~line.bit)) * SCALE + 1;
+            return net.prices[Integer.bitCount(net.linesBy[side] & ~line.bit)] * SCALE + 1;
         }
 
         private int leastDirection(Net net, Line line, int place) {
@@ -892,14 +898,11 @@ public final class LineBundles {
         }
 
         private void reach(int place, int sum) {
-            left[place] = sum;
-            push(sum * SCALE + place);
-        }
-
-        private void push(int key) {
             if (heaped >= HEAP) {
                 return;
             }
+            left[place] = sum;
+            int key = sum * SCALE + place;
             int at = heaped;
             heaped++;
             while (at > 0 && heap[(at - 1) / 2] > key) {
@@ -929,7 +932,7 @@ public final class LineBundles {
         }
     }
 
-    /** Finds TINTS: tries 0, 1, .. of them, till a row fits. */
+    /** Finds TINTS: tries more and more of them, till a row fits; LINES by one SIDE need one each. */
     private static final class Tinter {
         private final int[] clashes = new int[LINES];
         private final int[] tints = new int[LINES];
@@ -942,7 +945,7 @@ public final class LineBundles {
                 tints[i] = NONE;
                 members[i] = 0;
             }
-            tintCount = 0;
+            tintCount = net.greatestWidth();
             while (tintCount < LINES && !tintFrom(this, lineBits, 0, 0)) {
                 tintCount++;
             }

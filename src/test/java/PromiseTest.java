@@ -57,6 +57,7 @@ public final class PromiseTest {
         promise16();
         promise17();
         promise18();
+        promise18corner();
         promise19();
         promise20();
         promise21();
@@ -504,6 +505,26 @@ public final class PromiseTest {
         x.take(1);
         x.take(0);
         dueAll("18 a fork at the middle", x, 5 * 4 + 5 * 5 + 4 * 6, 14, 3, 1, 0, 27);
+    }
+
+    /** At the corner where numbering begins. */
+    private static void promise18corner() {
+        LineBundles x = new LineBundles();
+        x.point(0, 0);
+        x.point(0, 1);
+        x.point(1, 0);
+        x.line(0, 1);
+        x.line(2, 1);
+        lay(x, 0, "2");
+        lay(x, 1, "32");
+        dueAll("18 corner", x, 27, 2, 2, 1, 0, 3);
+        due("18 corner's width", x.width(0, 0, 2), 2);
+        due("18 corner, shared", x.shared(0, 1), 1);
+        due("18 corner, kind", x.kind(0), 2);
+        due("18 corner, kind of the other", x.kind(1), 3);
+        due("18 corner, mark", x.ask(1, 1), 10 + 7 + 1);
+        due("18 corner, tints", x.tint(NONE), 2);
+        due("18 corner, tint", x.tint(1), 1);
     }
 
     private static void promise19() {
