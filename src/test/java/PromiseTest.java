@@ -51,6 +51,7 @@ public final class PromiseTest {
         promise9();
         promise10();
         promise11();
+        promise11longest();
         promise12();
         promise13();
         promise14and15();
@@ -324,6 +325,30 @@ public final class PromiseTest {
         due("11 none", x.way(0, -1), 0);
     }
 
+    /** The longest WAY there can be: by all 100 places, along two LINES all the way. */
+    private static void promise11longest() {
+        LineBundles x = new LineBundles();
+        String snake = "";
+        for (int y = 0; y < 10; y++) {
+            snake += (y % 2 == 0 ? "111111111" : "333333333") + (y < 9 ? "2" : "");
+        }
+        x.point(0, 0);
+        x.point(6, 3);
+        x.point(6, 6);
+        x.point(0, 9);
+        for (int i = 0; i < 6; i++) {
+            x.line(i % 3, i % 3 + 1);
+            due("11 a third", lay(x, i, snake.substring(i % 3 * 33, i % 3 * 33 + 33)), 1);
+        }
+        x.rule(0, 100);
+        x.rule(1, 50);
+        x.line(0, 3);
+        due("11 longest, at 1 each", x.lead(6), 99);
+        dueWay("11 longest", x, 6, snake);
+        due("11 longest, detour", x.detour(6), 1100);
+        due("11 longest, at rest", x.pass(), 0);
+    }
+
     private static void promise12() {
         LineBundles x = new LineBundles();
         x.point(0, 0);
@@ -367,6 +392,10 @@ public final class PromiseTest {
         dueWay("12 longest", x, 0, most);
         due("12 too long", lay(x, 0, most + "3"), BAD);
         dueWay("12 too long", x, 0, most);
+        x.line(1, 0);
+        due("12 no direction, to the first place", lay(x, 1, "4"), BAD);
+        due("12 no direction at the end", lay(x, 1, "34"), BAD);
+        due("12 to the first place", lay(x, 1, "33"), 1);
     }
 
     private static void promise13() {
