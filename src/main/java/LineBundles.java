@@ -946,7 +946,8 @@ public final class LineBundles {
                 members[i] = 0;
             }
             tintCount = net.greatestWidth();
-            while (tintCount < LINES && !tintFrom(this, lineBits, 0, 0)) {
+            // The row is tried ahead of the bound: with as many TINTS as LINES it always fits.
+            while (!tintFrom(this, lineBits, 0, 0) && tintCount < LINES) {
                 tintCount++;
             }
         }

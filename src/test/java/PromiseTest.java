@@ -63,6 +63,8 @@ public final class PromiseTest {
         promise20();
         promise21();
         promise21hard();
+        promise21twelve();
+        promise21twelveOnTwoSides();
         promise22();
         promise22back();
         promise22ring();
@@ -643,6 +645,54 @@ public final class PromiseTest {
         due("21 of 1", x.tint(1), 1);
         due("21 of 2", x.tint(2), 1);
         due("21 of 3", x.tint(3), 0);
+    }
+
+    private static void dueTints(String what, LineBundles x, int... wants) {
+        int most = 0;
+        for (int i = 0; i < wants.length; i++) {
+            due(what + ", tint " + i, x.tint(i), wants[i]);
+            most = Math.max(most, wants[i] + 1);
+        }
+        due(what + ", how many", x.tint(NONE), most);
+    }
+
+    /** As many TINTS as there can be LINES, all by one SIDE; then fewer, one by one. */
+    private static void promise21twelve() {
+        LineBundles x = new LineBundles();
+        x.point(0, 0);
+        x.point(1, 0);
+        for (int i = 0; i < 12; i++) {
+            x.line(i % 2, 1 - i % 2);
+            x.lead(i);
+            due("21 one more", x.tint(NONE), i + 1);
+            due("21 of the last", x.tint(i), i);
+        }
+        due("21 by one side", x.all(2), 12);
+        dueTints("21 twelve", x, 0, 1, 2, 3, 4, 5, 6, 7, 8, 9, 10, 11);
+        x.take(4);
+        dueTints("21 eleven", x, 0, 1, 2, 3, NONE, 4, 5, 6, 7, 8, 9, 10);
+        lay(x, 4, "210");
+        dueTints("21 one apart", x, 0, 1, 2, 3, 0, 4, 5, 6, 7, 8, 9, 10);
+        for (int i = 0; i < 12; i++) {
+            x.take(i);
+        }
+        due("21 none again", x.tint(NONE), 0);
+    }
+
+    /** Twelve LINES, any two of which share a SIDE, though none has all: more TINTS than the greatest WIDTH. */
+    private static void promise21twelveOnTwoSides() {
+        LineBundles x = new LineBundles();
+        x.point(0, 0);
+        x.point(2, 0);
+        x.point(1, 1);
+        for (int i = 0; i < 11; i++) {
+            x.line(0, i < 6 ? 1 : 2);
+            due("21 lay", lay(x, i, i < 6 ? "11" : "12"), 1);
+        }
+        x.line(1, 2);
+        due("21 lay the last", lay(x, 11, "32"), 1);
+        due("21 no side has all", x.all(2), 11);
+        dueTints("21 twelve, any two sharing", x, 0, 1, 2, 3, 4, 5, 6, 7, 8, 9, 10, 11);
     }
 
     private static void promise22() {
