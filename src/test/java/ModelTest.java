@@ -2,7 +2,7 @@ import java.util.Random;
 
 /** Long random runs of calls, each answer compared with that of the plain model. */
 public final class ModelTest {
-    private static final int RUNS = 150, CALLS = 440;
+    private static final int RUNS = 150, CROWDED_RUNS = 60, CALLS = 440;
     private static final Due DUE = new Due();
 
     private final Random random;
@@ -20,30 +20,54 @@ public final class ModelTest {
         for (int seed = 0; seed < RUNS; seed++) {
             new ModelTest(seed).run();
         }
+        for (int seed = RUNS; seed < RUNS + CROWDED_RUNS; seed++) {
+            new ModelTest(seed).runCrowded();
+        }
         DUE.end();
     }
 
     private void run() {
         int span = 3 + random.nextInt(8);
-        int calls = build(span);
+        int points = 2 + random.nextInt(12);
+        int lines = 1 + random.nextInt(13);
+        int calls = build(span, points, lines, random.nextInt(span * span / 3));
         while (calls < CALLS) {
             calls += step(span);
         }
     }
 
-    private int build(int span) {
+    /** All LINES there can be, in a small room, so that many share their SIDES, up to all of them. */
+    private void runCrowded() {
+        int span = 2 + random.nextInt(3);
+        int calls = build(span, 2 + random.nextInt(3), 40, random.nextInt(2));
+        calls += wallIn(span);
+        if (random.nextBoolean()) {
+            due("pass", x.pass(), y.pass());
+            calls++;
+        }
+        while (calls < CALLS) {
+            calls += random.nextInt(3) == 0 ? wanders(span) : random.nextInt(3) == 0 ? tints() : step(span);
+        }
+    }
+
+    private int wallIn(int span) {
+        for (int i = 0; i <= span && span < 10; i++) {
+            due("shut", x.shut(span, i), y.shut(span, i));
+            due("shut", x.shut(i, span), y.shut(i, span));
+        }
+        return 2 * span + 2;
+    }
+
+    private int build(int span, int points, int lines, int shuts) {
         int calls = 0;
-        int points = 2 + random.nextInt(12);
         for (int i = 0; i < points; i++, calls++) {
             int px = random.nextInt(span), py = random.nextInt(span);
             due("point(" + px + ", " + py + ")", x.point(px, py), y.point(px, py));
         }
-        int lines = 1 + random.nextInt(13);
         for (int i = 0; i < lines; i++, calls++) {
             int a = random.nextInt(points), b = random.nextInt(points);
             due("line(" + a + ", " + b + ")", x.line(a, b), y.line(a, b));
         }
-        int shuts = random.nextInt(span * span / 3);
         for (int i = 0; i < shuts; i++, calls++) {
             int px = random.nextInt(span), py = random.nextInt(span);
             due("shut(" + px + ", " + py + ")", x.shut(px, py), y.shut(px, py));
@@ -198,6 +222,38 @@ public final class ModelTest {
         int tinted = random.nextInt(3) == 0 ? LineBundles.NONE : some(y.count(2));
         due("tint " + tinted, x.tint(tinted), y.tint(tinted));
         return 5;
+    }
+
+    /** A LINE laid by a walk without aim; the walks that come to its second POINT are tried first. */
+    private int wanders(int span) {
+        line = some(y.count(2));
+        String walk = "";
+        for (int tries = 0; tries < 200 && !y.isWay(line, walk); tries++) {
+            walk = "";
+            for (int n = 1 + random.nextInt(span * span / 2 + 1); n > 0; n--) {
+                walk += random.nextInt(4);
+            }
+        }
+        due("sheet", x.sheet(0, 2, walk.length()), y.sheet(0, 2, walk.length()));
+        for (int i = 0; i < walk.length(); i++) {
+            x.set(0, i, walk.charAt(i) - '0');
+            y.set(0, i, walk.charAt(i) - '0');
+        }
+        due("lay " + walk, x.lay(line, 0, 0, walk.length()), y.lay(line, 0, 0, walk.length()));
+        return walk.length() + 2;
+    }
+
+    private int tints() {
+        int lines = y.count(2);
+        int[] row = y.tintRow();
+        due("tints", x.tint(LineBundles.NONE), row[lines]);
+        for (int i = 0; i < lines; i++) {
+            due("tint " + i, x.tint(i), row[i]);
+        }
+        due("greatest width", x.all(2), y.all(2));
+        due("forks", x.all(3), y.all(3));
+        due("crossings", x.all(4), y.all(4));
+        return lines + 4;
     }
 
     private int reading() {

@@ -241,18 +241,29 @@ final class PlainModel {
         if (i < 0 || (long) i + n > sheets[s].length) return finding(2);
         Line l = lines.get(line);
         List<Integer> way = new ArrayList<>();
+        for (int k = i; k < i + n; k++) way.add((int) sheets[s][k]);
+        if (!isWay(l, way)) return BAD;
+        l.way = way;
+        return fine(1);
+    }
+
+    /** Whether directions written as digits are a WAY of a LINE. */
+    boolean isWay(int line, String told) {
+        List<Integer> way = new ArrayList<>();
+        for (char c : told.toCharArray()) way.add(c - '0');
+        return !noLine(line) && isWay(lines.get(line), way);
+    }
+
+    private boolean isWay(Line l, List<Integer> way) {
         Set<Place> been = new HashSet<>();
         Place p = l.from;
         been.add(p);
-        for (int k = i; k < i + n; k++) {
-            if (sheets[s][k] < 0 || sheets[s][k] > 3) return BAD;
-            way.add((int) sheets[s][k]);
-            p = p.to((int) sheets[s][k]);
-            if (!p.onBoard() || shuts.contains(p) || !been.add(p)) return BAD;
+        for (int d : way) {
+            if (d < 0 || d > 3) return false;
+            p = p.to(d);
+            if (!p.onBoard() || shuts.contains(p) || !been.add(p)) return false;
         }
-        if (!p.equals(l.to)) return BAD;
-        l.way = way;
-        return fine(1);
+        return p.equals(l.to);
     }
 
     int take(int line) {
@@ -415,17 +426,23 @@ final class PlainModel {
 
     int tint(int line) {
         if (line != NONE && noLine(line)) return BAD;
+        return tintRow()[line == NONE ? lines.size() : line];
+    }
+
+    /** The TINTS of all LINES, and behind them how many TINTS. */
+    int[] tintRow() {
         List<Integer> with = new ArrayList<>();
         boolean[][] clash = new boolean[12][12];
         for (int i = 0; i < lines.size(); i++) {
             if (lines.get(i).way != null) with.add(i);
             for (int j = 0; j < lines.size(); j++) clash[i][j] = shared(i, j) > 0;
         }
-        int[] row = new int[with.size()];
+        int[] row = new int[with.size()], all = new int[lines.size() + 1];
         int k = fewest(with, clash);
         tinted(with, clash, row, 0, k);
-        if (line == NONE) return k;
-        return with.contains(line) ? row[with.indexOf(line)] : NONE;
+        for (int i = 0; i < lines.size(); i++) all[i] = with.contains(i) ? row[with.indexOf(i)] : NONE;
+        all[lines.size()] = k;
+        return all;
     }
 
     private boolean lineEndsAt(Place p) {
