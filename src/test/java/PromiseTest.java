@@ -58,7 +58,10 @@ public final class PromiseTest {
         promise16();
         promise17();
         promise18();
-        promise18corner();
+        promise18corner(0, 0);
+        promise18corner(9, 0);
+        promise18corner(0, 9);
+        promise18corner(9, 9);
         promise19();
         promise20();
         promise21();
@@ -539,23 +542,29 @@ public final class PromiseTest {
     }
 
     /** At the corner where numbering begins. */
-    private static void promise18corner() {
+    /** One LINE begins in a corner of THE BOARD, another one goes through it and along the first one. */
+    private static void promise18corner(int cx, int cy) {
         LineBundles x = new LineBundles();
-        x.point(0, 0);
-        x.point(0, 1);
-        x.point(1, 0);
+        int upright = cy == 0 ? 2 : 0, level = cx == 0 ? 1 : 3;
+        x.point(cx, cy);
+        x.point(cx, cy == 0 ? 1 : 8);
+        x.point(cx == 0 ? 1 : 8, cy);
         x.line(0, 1);
         x.line(2, 1);
-        lay(x, 0, "2");
-        lay(x, 1, "32");
+        due("18 corner, lay", lay(x, 0, "" + upright), 1);
+        due("18 corner, lay through it", lay(x, 1, "" + (level + 2) % 4 + upright), 1);
         dueAll("18 corner", x, 27, 2, 2, 1, 0, 3);
-        due("18 corner's width", x.width(0, 0, 2), 2);
+        for (int d = 0; d < 4; d++) {
+            due("18 corner's width " + d, x.width(cx, cy, d), d == upright ? 2 : d == level ? 1 : 0);
+        }
         due("18 corner, shared", x.shared(0, 1), 1);
         due("18 corner, kind", x.kind(0), 2);
         due("18 corner, kind of the other", x.kind(1), 3);
         due("18 corner, mark", x.ask(1, 1), 10 + 7 + 1);
         due("18 corner, tints", x.tint(NONE), 2);
         due("18 corner, tint", x.tint(1), 1);
+        due("18 corner, led", x.lead(1), 17);
+        dueWay("18 corner, led", x, 1, "" + (level + 2) % 4 + upright);
     }
 
     private static void promise19() {
