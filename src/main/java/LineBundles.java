@@ -568,7 +568,7 @@ public final class LineBundles {
 
         /** Whether n ITEMS from i on are there; written so that no sum can wrap around. */
         boolean holds(int i, int n) {
-            return i >= 0 && n >= 0 && n <= size && i <= size - n;
+            return i >= 0 && n >= 0 && i <= size - n;
         }
 
         int put(int i, int v) {
