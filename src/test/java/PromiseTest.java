@@ -1,45 +1,5 @@
 /** Each promise by hand: ordinary inputs, the edges that the document names, wrong inputs. */
-public final class PromiseTest {
-    private static final int NONE = LineBundles.NONE, BAD = LineBundles.BAD;
-    private static final int STATE = LineBundles.STATE, FULL = LineBundles.FULL;
-    private static final int NULL = -1000011, PLACE = -1000012, KIND = -1000013, SIZE = -1000014, STORE = -1000015;
-    private static final int MAX = Integer.MAX_VALUE, MIN = Integer.MIN_VALUE;
-    private static final Due DUE = new Due();
-
-    private static void due(String what, int got, int want) {
-        DUE.same(what, got, want);
-    }
-
-    /** Writes directions to SHEET 7 and lays a LINE by them. */
-    private static int lay(LineBundles x, int line, String directions) {
-        x.sheet(7, 0, directions.length());
-        for (int i = 0; i < directions.length(); i++) {
-            x.set(7, i, directions.charAt(i) - '0');
-        }
-        return x.lay(line, 7, 0, directions.length());
-    }
-
-    private static void dueWay(String what, LineBundles x, int line, String directions) {
-        due(what + ", sides", x.way(line, -1), directions.length());
-        for (int i = 0; i < directions.length(); i++) {
-            due(what + ", direction " + i, x.way(line, i), directions.charAt(i) - '0');
-        }
-        due(what + ", beyond", x.way(line, directions.length()), NONE);
-    }
-
-    private static void dueAll(String what, LineBundles x, int... wants) {
-        for (int i = 0; i < wants.length; i++) {
-            due(what + ", all " + i, x.all(i), wants[i]);
-        }
-    }
-
-    private static void dueTrace(String what, LineBundles x, int... wants) {
-        for (int i = 0; i < wants.length; i++) {
-            due(what + ", trace " + i, x.trace(i), wants[i]);
-        }
-        due(what + ", trace's end", x.trace(wants.length), NONE);
-    }
-
+public final class PromiseTest extends Hand {
     public static void main(String[] args) {
         promise1();
         promise2();
@@ -541,7 +501,6 @@ public final class PromiseTest {
         dueAll("18 a fork at the middle", x, 5 * 4 + 5 * 5 + 4 * 6, 14, 3, 1, 0, 27);
     }
 
-    /** At the corner where numbering begins. */
     /** One LINE begins in a corner of THE BOARD, another one goes through it and along the first one. */
     private static void promise18corner(int cx, int cy) {
         LineBundles x = new LineBundles();
@@ -654,15 +613,6 @@ public final class PromiseTest {
         due("21 of 1", x.tint(1), 1);
         due("21 of 2", x.tint(2), 1);
         due("21 of 3", x.tint(3), 0);
-    }
-
-    private static void dueTints(String what, LineBundles x, int... wants) {
-        int most = 0;
-        for (int i = 0; i < wants.length; i++) {
-            due(what + ", tint " + i, x.tint(i), wants[i]);
-            most = Math.max(most, wants[i] + 1);
-        }
-        due(what + ", how many", x.tint(NONE), most);
     }
 
     /** As many TINTS as there can be LINES, all by one SIDE; then fewer, one by one. */
