@@ -111,4 +111,22 @@ class Hand {
         x.pass();
         return x;
     }
+
+    /** Puts a POINT at a place of THE BOARD that was turned to the right some times. */
+    static int pointTurned(LineBundles x, int px, int py, int times) {
+        for (int i = 0; i < times; i++) {
+            int was = px;
+            px = 9 - py;
+            py = was;
+        }
+        return x.point(px, py);
+    }
+
+    static String turned(String directions, int times) {
+        StringBuilder all = new StringBuilder();
+        for (char c : directions.toCharArray()) {
+            all.append((c - '0' + times) % 4);
+        }
+        return all.toString();
+    }
 }

@@ -170,6 +170,8 @@ public final class LeadEdgeTest extends Hand {
         lay(x, 1, "2111110");
         due("50 by both still", x.lead(1), 50);
         dueWay("fewest sides still", x, 1, "11111");
+        due("50 by both for the other one", x.lead(0), 50);
+        dueWay("fewest sides, though the longer one begins by a lesser direction", x, 0, "11111");
     }
 
     /** "then that whose first DIRECTION is the least, then the second, .." */
@@ -388,6 +390,11 @@ public final class LeadEdgeTest extends Hand {
         due("no direction between", lay(y, 0, "141"), BAD);
         due("no direction first", lay(y, 0, "411"), BAD);
         due("directions", lay(y, 0, "11"), 1);
+        y.point(0, 0);
+        y.line(0, 2);
+        due("no direction, to the first place", lay(y, 1, "4"), BAD);
+        due("no direction, to the first place", lay(y, 1, "13" + "4"), BAD);
+        due("to the first place", lay(y, 1, "3"), 1);
     }
 
     /** From each of the four corners over both edges, and straight over to where the next row begins. */

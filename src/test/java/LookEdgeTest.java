@@ -5,10 +5,12 @@ public final class LookEdgeTest extends Hand {
         widthFromBothPlaces();
         widthOfBadNumbers();
         widthUpToTwelve();
+        cornersCount();
         allOfBadNumbers();
         allOfNone();
         allAtItsMost();
         forkWhereOneEnds();
+        forkInEachDirection();
         forkOfTwoSides();
         noForkWithoutShare();
         noForkWhereBothGo();
@@ -26,6 +28,7 @@ public final class LookEdgeTest extends Hand {
         tintOfNone();
         tintMoreThanWidth();
         tintLeastRow();
+        tintAnew();
         tintOverGaps();
         readsRefused();
         readsWithoutWidth();
@@ -34,6 +37,7 @@ public final class LookEdgeTest extends Hand {
         readsAtCorners();
         readsToPointsWithWays();
         readsBackToItsStart();
+        readsToItsStart();
         readsHundredSides();
         DUE.end();
     }
@@ -99,6 +103,29 @@ public final class LookEdgeTest extends Hand {
         }
     }
 
+    /** The SIDES of all four corners count as others do. */
+    private static void cornersCount() {
+        for (int turn = 0; turn < 4; turn++) {
+            for (int down = 0; down < 2; down++) {
+                LineBundles x = new LineBundles();
+                pointTurned(x, 0, 0, turn);
+                pointTurned(x, 1 - down, down, turn);
+                x.line(0, 1);
+                x.line(1, 0);
+                x.rest();
+                dueAll("two in a corner", x, 17, 1, 2, 0, 0, 2);
+                due("shared", x.shared(0, 1), 1);
+                due("bound", x.kind(0), 2);
+                due("mark", x.ask(1, 1), 7 + 2);
+                due("led", x.lead(0), 7);
+                dueTints("two in a corner", x, 0, 1);
+                x.take(0);
+                dueAll("one in a corner", x, 10, 1, 1, 0, 0, 1);
+                due("alone", x.ask(1, 1), 10);
+            }
+        }
+    }
+
     private static void allOfBadNumbers() {
         LineBundles x = rope(2);
         for (int what : beyond(6)) {
@@ -134,7 +161,7 @@ public final class LookEdgeTest extends Hand {
         dueAll("at their most", x, 40 * 12 * 100, 40, 12, 0, 0, 480);
     }
 
-    /** PART: "(or end there)": where the one ends, the other one has another SIDE. */
+    /** PART: "(or end there)": where the one ends, the other one has another SIDE, straight on or aside. */
     private static void forkWhereOneEnds() {
         LineBundles x = new LineBundles();
         for (int i = 0; i < 4; i++) {
@@ -151,6 +178,19 @@ public final class LookEdgeTest extends Hand {
         due("one end less", x.all(3), 1);
         x.take(2);
         due("none to part from", x.all(3), 0);
+    }
+
+    private static void forkInEachDirection() {
+        for (int came = 0; came < 4; came++) {
+            for (int goes = 0; goes < 4; goes++) {
+                LineBundles x = star();
+                x.line(1 + came, 1 + goes);
+                x.lead(came);
+                int back = (came + 2) % 4;
+                due("through the middle", lay(x, 4, "" + back + goes), goes == came ? BAD : 1);
+                due("came by " + came + ", goes by " + goes, x.all(3), goes == came ? 0 : 1);
+            }
+        }
     }
 
     /** Both turn aside, or the one goes on: each counts. */
@@ -448,6 +488,25 @@ public final class LookEdgeTest extends Hand {
         dueTints("one along all", x, 0, 0, NONE, NONE, 0, 1);
     }
 
+    /** TINTS are told for the WAYS as they are, not as they were. */
+    private static void tintAnew() {
+        LineBundles x = rope(3);
+        dueTints("by one side", x, 0, 1, 2);
+        lay(x, 1, "210");
+        dueTints("one apart", x, 0, 0, 1);
+        lay(x, 2, "210");
+        dueTints("another one apart", x, 0, 0, 1);
+        lay(x, 1, "22100");
+        dueTints("in part", x, 0, 0, 1);
+        lay(x, 2, "1");
+        dueTints("with the first one", x, 0, 0, 1);
+        x.take(0);
+        dueTints("without the first one", x, NONE, 0, 0);
+        x.lead(0);
+        x.lead(1);
+        dueTints("all again", x, 0, 1, 2);
+    }
+
     /** LINES without WAYS have none, and those behind them count as if they were not there. */
     private static void tintOverGaps() {
         LineBundles x = rope(12);
@@ -551,27 +610,30 @@ public final class LookEdgeTest extends Hand {
         due("none goes on over the edge", x.reads(3, 3), STATE);
     }
 
-    /** "at a POINT at which some LINE with a WAY begins or ends it ends, too" */
+    /** "at a POINT at which some LINE with a WAY begins or ends it ends, too": whichever LINE that is. */
     private static void readsToPointsWithWays() {
-        LineBundles x = new LineBundles();
-        for (int i = 0; i < 4; i++) {
-            x.point(3 * i, 5);
+        for (int ahead = 0; ahead <= 9; ahead += 9) {
+            LineBundles x = new LineBundles();
+            for (int i = 0; i < 4; i++) {
+                x.point(3 * i, 5);
+            }
+            x.point(3, 0);
+            for (int i = 0; i < ahead; i++) {
+                x.line(0, 1);
+            }
+            int begins = x.line(1, 4), ends = x.line(4, 2), all = x.line(0, 3);
+            x.lead(all);
+            due("by points of lines without ways", x.reads(0, 1), 3);
+            due("one begins there", lay(x, begins, "00000"), 1);
+            due("to where one begins", x.reads(0, 1), 1);
+            due("to it from the other end", x.reads(3, 3), 1);
+            due("one ends there", lay(x, ends, "11122222"), 1);
+            due("to where one ends", x.reads(3, 3), 2);
+            x.take(begins);
+            due("taken off", x.reads(0, 1), 2);
+            x.take(ends);
+            due("both taken off", x.reads(0, 1), 3);
         }
-        x.point(3, 0);
-        x.line(0, 3);
-        x.line(1, 4);
-        x.line(4, 2);
-        x.lead(0);
-        due("by points of lines without ways", x.reads(0, 1), 3);
-        due("one begins there", lay(x, 1, "00000"), 1);
-        due("to where one begins", x.reads(0, 1), 1);
-        due("to it from the other end", x.reads(3, 3), 1);
-        due("one ends there", lay(x, 2, "11122222"), 1);
-        due("to where one ends", x.reads(3, 3), 2);
-        x.take(1);
-        due("taken off", x.reads(0, 1), 2);
-        x.take(2);
-        due("both taken off", x.reads(0, 1), 3);
     }
 
     /** A ring from 3, 3 to 6, 6 with a stem behind each corner; a reader goes round it without an end. */
@@ -600,6 +662,24 @@ public final class LookEdgeTest extends Hand {
         due("a point 4 sides on", x.point(6, 6), 5);
         due("by it 8 times, and 4 sides on", x.reads(4, 1), 5);
         due("back, straight on at the first corner", x.reads(4, 3), 3);
+    }
+
+    /** Where it can't go on at the POINT from which it goes, it ends there: in all four turns of THE BOARD. */
+    private static void readsToItsStart() {
+        for (int turn = 0; turn < 4; turn++) {
+            LineBundles x = new LineBundles();
+            pointTurned(x, 0, 5, turn);
+            pointTurned(x, 4, 8, turn);
+            pointTurned(x, 8, 4, turn);
+            pointTurned(x, 4, 0, turn);
+            String[] ways = {"1111222", "00010111", "33303000", "222322333"};
+            for (int i = 0; i < 4; i++) {
+                x.line(i, (i + 1) % 4);
+                due("a stem and a side of the loop", lay(x, i, turned(ways[i], turn)), 1);
+            }
+            due("round the loop and back", x.reads(0, (1 + turn) % 4), 0);
+            due("into the loop", x.reads(1, turn), 0);
+        }
     }
 
     /** "and after 100 SIDES": neither 99 nor 101. */
