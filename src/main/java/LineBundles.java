@@ -138,10 +138,10 @@ public final class LineBundles {
         int was = BAD;
         if (what == 0 && v >= 1 && v <= 100) {
             was = net.base;
-            net.putRules(v, net.save);
+            net.base = v;
         } else if (what == 1 && v >= 0 && v <= 50) {
             was = net.save;
-            net.putRules(net.base, v);
+            net.save = v;
         }
         return was;
     }
@@ -272,6 +272,9 @@ public final class LineBundles {
         int heading = direction;
         for (int gone = 0; gone < LONGEST_READ && heading >= 0; gone++) {
             place = beside(place, heading);
+            if (place < 0) {
+                return NONE;
+            }
             heading = place != start && isEndOfWay(place) ? -1 : net.onward(place, heading);
         }
         return net.pointAt[place];
@@ -611,23 +614,17 @@ public final class LineBundles {
         private final int[] pointAt = new int[PLACES];
         private final int[] linesBy = new int[NUMBERED_SIDES];
         private final boolean[] goneTo = new boolean[PLACES];
-        /** What a SIDE costs the next LINE, by how many are on it. */
-        private final int[] prices = new int[LINES];
-        private int base, save;
+        private int base = 10, save = 3;
 
         Net() {
             for (int place = 0; place < PLACES; place++) {
                 pointAt[place] = NONE;
             }
-            putRules(10, 3);
         }
 
-        void putRules(int newBase, int newSave) {
-            base = newBase;
-            save = newSave;
-            for (int j = 0; j < LINES; j++) {
-                prices[j] = Math.max(1, base - j * save);
-            }
+        /** What a SIDE with j LINES on it costs the next one. */
+        int price(int j) {
+            return Math.max(1, base - j * save);
         }
 
         int linesFrom(int place, int direction) {
@@ -691,6 +688,9 @@ public final class LineBundles {
             int place = line.start;
             for (int k = 0; k < line.length; k++) {
                 int next = beside(place, line.steps[k]);
+                if (next < 0) {
+                    return;
+                }
                 linesBy[sideBetween(place, next, line.steps[k])] ^= line.bit;
                 place = next;
             }
@@ -700,7 +700,7 @@ public final class LineBundles {
             int sum = 0;
             for (int side = 0; side < NUMBERED_SIDES; side++) {
                 if ((linesBy[side] & line.bit) != 0) {
-                    sum += prices[Integer.bitCount(linesBy[side]) - 1];
+                    sum += price(Integer.bitCount(linesBy[side]) - 1);
                 }
             }
             return sum;
@@ -742,7 +742,7 @@ public final class LineBundles {
             for (int side = 0; side < NUMBERED_SIDES; side++) {
                 int lines = Integer.bitCount(linesBy[side]);
                 for (int j = 0; j < lines; j++) {
-                    sum += prices[j];
+                    sum += price(j);
                 }
             }
             return sum;
@@ -839,7 +839,7 @@ public final class LineBundles {
             }
             cost = left[line.start] / SCALE;
             int place = line.start;
-            for (int i = 0; i < PLACES && place != line.goal; i++) {
+            for (int i = 0; i < PLACES && place >= 0 && place != line.goal; i++) {
                 int d = leastDirection(net, line, place);
                 if (d < 0) {
                     return false;
@@ -853,7 +853,7 @@ public final class LineBundles {
 
         /** The LINE's own WAY counts as taken off. */
         private static int weight(Net net, Line line, int side) {
-            return net.prices[Integer.bitCount(net.linesBy[side] & ~line.bit)] * SCALE + 1;
+            return net.price(Integer.bitCount(net.linesBy[side] & ~line.bit)) * SCALE + 1;
         }
 
         private int leastDirection(Net net, Line line, int place) {

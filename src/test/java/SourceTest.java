@@ -20,6 +20,7 @@ public final class SourceTest {
         + "point(int,int) reads(int,int) rest() rule(int,int) set(int,int,int) shared(int,int) "
         + "sheet(int,int,int) shut(int,int) status() take(int) tint(int) trace(int) way(int,int) "
         + "width(int,int,int)";
+    private static final Pattern HEAD = Pattern.compile("^( {4}| {8})(?! )[^=;]*\\) \\{$");
     private static final Due DUE = new Due();
 
     public static void main(String[] args) throws Exception {
@@ -27,7 +28,7 @@ public final class SourceTest {
         fields();
         nested();
         words(code(Files.readString(SOURCE)));
-        methodLengths(Files.readAllLines(SOURCE));
+        methods(Files.readAllLines(SOURCE));
         DUE.end();
     }
 
@@ -115,18 +116,37 @@ public final class SourceTest {
         }
     }
 
-    /** A method's head and its end stand at the same depth. */
-    private static void methodLengths(List<String> lines) {
-        Pattern head = Pattern.compile("^( {4}| {8})(?! )[^=;]*\\) \\{$");
+    private static void methods(List<String> lines) {
+        int besides = 0;
         for (int i = 0; i < lines.size(); i++) {
-            Matcher m = head.matcher(lines.get(i));
+            Matcher m = HEAD.matcher(lines.get(i));
             if (m.matches()) {
-                int end = i;
-                while (end < lines.size() && !lines.get(end).equals(m.group(1) + "}")) {
-                    end++;
-                }
+                int end = endOf(lines, i, m.group(1));
                 fine("sixty lines: " + lines.get(i), end - i < 60);
+                besides += placesLookedAt(String.join("\n", lines.subList(i, end)));
             }
         }
+        fine("places beside others were found", besides > 0);
+    }
+
+    /** A method's head and its end stand at the same depth. */
+    private static int endOf(List<String> lines, int head, String depth) {
+        int end = head;
+        while (end < lines.size() && !lines.get(end).equals(depth + "}")) {
+            end++;
+        }
+        return end;
+    }
+
+    /** "An index is looked at before it is used": the place beside another one may be none, -1. */
+    private static int placesLookedAt(String method) {
+        int besides = 0;
+        Matcher m = Pattern.compile("(\\w+) = [^;]*\\bbeside\\(").matcher(method);
+        while (m.find()) {
+            boolean looked = Pattern.compile("\\b" + m.group(1) + " (<|>=) 0\\b").matcher(method).find();
+            fine("looked at: " + m.group(1) + " in " + method.lines().findFirst().orElse("").trim(), looked);
+            besides++;
+        }
+        return besides;
     }
 }
